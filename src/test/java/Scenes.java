@@ -22,8 +22,8 @@ final class Scenes {
         SpriteLines lines = new SpriteLines();
         for (String text : texts) {
             int part = lines.addPart();
-            if (!text.isEmpty()) {
-                draw(lines, part, text);
+            if (!text.isEmpty() && draw(lines, part, text) < 1) {
+                throw new IllegalArgumentException("no text of pixels: " + text);
             }
         }
         lines.clearText();

@@ -173,8 +173,8 @@ public final class SheetTest {
     private static void alike() {
         String one = "123...../1......./........";
         SpriteLines x = Scenes.parts(one, one, ".....321/.......1",
-                "......../......../......../......../......../......../1......./123.....",
-                "......../......../......../......../......../......../.......1/.....321",
+                ".x8/.x8/.x8/.x8/.x8/.x8/1.x7/123.x5",
+                ".x8/.x8/.x8/.x8/.x8/.x8/.x71/.x5321",
                 "223...../1.......");
         for (int way = 0; way < 4; way++) {
             CHECK.due("alike(0, " + (way + 1) + ")", x.alike(0, way + 1), way);
@@ -195,9 +195,8 @@ public final class SheetTest {
 
     private static void alikeLowestWay() {
         String top = "12....21";
-        String bottom = "......../......../......../......../......../......../......../12....21";
-        SpriteLines x = Scenes.parts(top, bottom, "", "", "3......./......../......../........"
-                + "/......../......../......../.......3", "");
+        String bottom = ".x8/.x8/.x8/.x8/.x8/.x8/.x8/12....21";
+        SpriteLines x = Scenes.parts(top, bottom, "", "", "3.x7/.x8/.x8/.x8/.x8/.x8/.x8/.x73", "");
         x.setPixel(5, 0, 7, 3);
         x.setPixel(5, 7, 0, 3);
         CHECK.due("2 and 3 fit: alike(0, 1)", x.alike(0, 1), 2);

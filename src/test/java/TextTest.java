@@ -175,13 +175,13 @@ public final class TextTest {
     }
 
     private static void fault(String text, int fault) {
-        SpriteLines x = Scenes.parts("123");
+        SpriteLines x = Scenes.parts("123.x5");
         x.setPixel(0, 0, 0, 3);
         x.setPixel(0, 7, 7, 2);
         int states = x.count(12);
         CHECK.due("draw of \"" + text + "\"", Scenes.draw(x, 0, text), -100 - fault);
         CHECK.due("states", x.count(12), states);
-        CHECK.due("share", x.share(0), 2 / 64.0);
+        CHECK.due("share", x.share(0), 4 / 64.0);
         CHECK.due("pixel", x.pixel(0, 0, 0), 3);
         CHECK.due("length", x.count(13), text.length());
     }
