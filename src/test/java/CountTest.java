@@ -54,6 +54,11 @@ public final class CountTest {
         }
         CHECK.due("line 0 alone", x.count(3), 1);
         CHECK.due("most", x.count(4), 3);
+        for (int sprite = 0; sprite < 4; sprite++) {
+            x.move(sprite, 0, 31);
+        }
+        CHECK.due("line 31 alone", x.count(3), 1);
+        CHECK.due("most", x.count(4), 4);
     }
 
     private static void linesWithSwap() {
@@ -128,6 +133,15 @@ public final class CountTest {
         x.setStride(1);
         x.next(1);
         CHECK.due("another first one", x.count(11), 4);
+        x.move(0, 0, -7);
+        x.move(1, 0, 31);
+        x.move(2, 0, 31);
+        CHECK.due("line 0 alone", x.count(11), 1);
+        x.move(0, 0, 31);
+        x.setLimit(2);
+        CHECK.due("line 31 alone, 1 and 2", x.count(11), 1);
+        x.next(1);
+        CHECK.due("line 31 alone, 2 and 0", x.count(11), 1);
         SpriteLines y = Scenes.stack(20, 0, 0);
         y.setLimit(20);
         CHECK.due("all", y.count(11), 160);

@@ -250,6 +250,15 @@ public final class LineTest {
         x.move(0, 5, 24);
         x.move(1, 5, 24);
         CHECK.due("last line", x.meet(0, 1), 1);
+        x.move(1, 0, 0);
+        x.set(0, 1, 1);
+        x.set(1, 1, 0);
+        for (int left = -7; left < 0; left++) {
+            x.move(0, left, 0);
+            CHECK.due("last pixel in column " + (left + 7), x.meet(0, 1), 1);
+        }
+        x.move(0, -7, 1);
+        CHECK.due("on another line", x.meet(0, 1), 0);
         SpriteLines y = Scenes.stack(2, -7, -7);
         CHECK.due("one pixel of the screen", y.meet(0, 1), 1);
         y.move(0, 31, 31);

@@ -34,31 +34,34 @@ public final class PackTest {
         CHECK.due("parts then", x.count(0), 2);
     }
 
-    /** A part and its four mirrored ones; sprites that show them in each of the four ways. */
+    /** A part and a mirrored one; sprites that show them, mirrored themselves. */
     private static void unitesEachWay() {
         for (int mirrored = 0; mirrored < 4; mirrored++) {
-            SpriteLines x = Scenes.parts(ODD, "");
-            copyMirrored(x, 0, mirrored, 1);
-            CHECK.due("alike", x.alike(0, 1), mirrored);
             for (int way = 0; way < 4; way++) {
-                x.addSprite(1, 9 * (way % 2) + 3, 9 * (way / 2) - 2);
-                x.set(way, 1, way);
+                unites(mirrored, way);
             }
-            x.addSprite(0, 20, 20);
-            x.set(4, 1, 2);
-            String screen = Scenes.screen(x);
-            CHECK.due("pack(false)", x.pack(false), 1);
-            CHECK.due("parts", x.count(0), 1);
-            CHECK.holds("the screen stays", Scenes.screen(x).equals(screen));
-            for (int way = 0; way < 4; way++) {
-                CHECK.due("its part", x.sprite(way, 0), 0);
-                CHECK.due("its way", x.sprite(way, 1), way ^ mirrored);
-            }
-            CHECK.due("way of one that shows part 0", x.sprite(4, 1), 2);
-            CHECK.due("the rest of a sprite", x.sprite(3, 4), 12);
-            CHECK.due("the rest of a sprite", x.sprite(3, 5), 7);
-            CHECK.due("pack(false) again", x.pack(false), SpriteLines.NONE);
         }
+    }
+
+    private static void unites(int mirrored, int way) {
+        SpriteLines x = Scenes.parts(ODD, "");
+        copyMirrored(x, 0, mirrored, 1);
+        CHECK.due("alike", x.alike(0, 1), mirrored);
+        x.addSprite(1, 3, 7);
+        x.set(0, 1, way);
+        x.addSprite(0, 20, 20);
+        x.set(1, 1, 2);
+        String before = Scenes.colors(x, 7, 14, 3, 4, 5, 6, 7, 8, 9, 10);
+        CHECK.due("pack(false)", x.pack(false), 1);
+        CHECK.due("parts", x.count(0), 1);
+        String after = Scenes.colors(x, 7, 14, 3, 4, 5, 6, 7, 8, 9, 10);
+        CHECK.holds("the screen stays", after.equals(before));
+        int[] due = {0, way ^ mirrored, 0, 1, 3, 7};
+        for (int what = 0; what < 6; what++) {
+            CHECK.due("sprite(0, " + what + ")", x.sprite(0, what), due[what]);
+        }
+        CHECK.due("way of one that shows part 0", x.sprite(1, 1), 2);
+        CHECK.due("pack(false) again", x.pack(false), SpriteLines.NONE);
     }
 
     private static void copyMirrored(SpriteLines x, int from, int way, int to) {
@@ -171,7 +174,7 @@ public final class PackTest {
         for (int sprite = 0; sprite < 8; sprite++) {
             x.addSprite(7 - sprite, 0, 3 * sprite);
         }
-        String screen = Scenes.screen(x);
+        String before = Scenes.colors(x, 0, 28, 0, 1, 7);
         CHECK.due("pack(false)", x.pack(false), 3);
         CHECK.due("parts", x.count(0), 5);
         int[] due = {4, 1, 3, 1, 2, 0, 1, 0};
@@ -183,7 +186,8 @@ public final class PackTest {
             CHECK.due("pixel of " + part, x.pixel(part, 0, 0), pixels[part]);
             CHECK.due("second pixel of " + part, x.pixel(part, 0, 1), part < 3 ? 0 : pixels[part]);
         }
-        CHECK.holds("the screen stays", Scenes.screen(x).equals(screen));
+        String after = Scenes.colors(x, 0, 28, 0, 1, 7);
+        CHECK.holds("the screen stays", after.equals(before));
     }
 
     private static void undone() {

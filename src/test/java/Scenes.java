@@ -51,14 +51,20 @@ final class Scenes {
         return result.toString();
     }
 
-    /** All that can be told of an object but the text, the history and the snapshots. */
+    /**
+     * What can be told of a small scene: three parts with two rows, sprites in the upper left. About
+     * 210 calls, as an object is good for 512.
+     */
     static String told(SpriteLines lines) {
         StringBuilder result = new StringBuilder();
         for (int what = 0; what < 12; what++) {
             result.append(lines.count(what)).append(' ');
         }
         for (int part = 0; part < lines.count(0); part++) {
-            result.append("\npart ").append(rows(lines, part));
+            result.append("\npart ").append(lines.share(part));
+            for (int place = 0; place < 16; place++) {
+                result.append(' ').append(lines.pixel(part, place / 8, place % 8));
+            }
         }
         for (int sprite = 0; sprite < lines.count(1); sprite++) {
             result.append("\nsprite");
@@ -66,29 +72,23 @@ final class Scenes {
                 result.append(' ').append(lines.sprite(sprite, what));
             }
         }
-        for (int line = 0; line < 32; line++) {
+        for (int line = 0; line < 12; line++) {
             result.append("\nline ").append(lines.weight(line));
             for (int what = 0; what < 5; what++) {
                 result.append(' ').append(lines.line(line, what));
             }
-            result.append(" of").append(screenLine(lines, line));
         }
-        return result.toString();
+        return result + colors(lines, 0, 4, 0, 1, 3, 4, 6, 10, 11);
     }
 
-    /** The colors of all pixels of the screen. */
-    static String screen(SpriteLines lines) {
+    /** The colors of lines, in some columns. */
+    static String colors(SpriteLines lines, int from, int to, int... columns) {
         StringBuilder result = new StringBuilder();
-        for (int line = 0; line < 32; line++) {
-            result.append(screenLine(lines, line)).append('\n');
-        }
-        return result.toString();
-    }
-
-    private static String screenLine(SpriteLines lines, int line) {
-        StringBuilder result = new StringBuilder();
-        for (int column = 0; column < 32; column++) {
-            result.append(' ').append(lines.color(line, column));
+        for (int line = from; line <= to; line++) {
+            result.append("\ncolors");
+            for (int column : columns) {
+                result.append(' ').append(lines.color(line, column));
+            }
         }
         return result.toString();
     }

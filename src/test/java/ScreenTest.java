@@ -246,10 +246,9 @@ public final class ScreenTest {
     }
 
     private static void colorMirrored() {
-        String rows = "12.x53/.1.x6/2.x7/.x8/.x8/.x8/.x8/..3.x41";
-        SpriteLines x = Scenes.parts(rows);
-        x.addSprite(0, 5, 11);
         for (int way = 0; way < 4; way++) {
+            SpriteLines x = Scenes.parts("12.x53/.1.x6/2.x7/.x8/.x8/.x8/.x8/..3.x41");
+            x.addSprite(0, 5, 11);
             x.set(0, 1, way);
             for (int row = 0; row < 8; row++) {
                 for (int column = 0; column < 8; column++) {
@@ -257,11 +256,11 @@ public final class ScreenTest {
                     CHECK.due("color", x.color(11 + row, 5 + column), due);
                 }
             }
+            CHECK.due("left of it", x.color(11, 4), 0);
+            CHECK.due("right of it", x.color(11, 13), 0);
+            CHECK.due("above it", x.color(10, 5), 0);
+            CHECK.due("below it", x.color(19, 5), 0);
         }
-        CHECK.due("left of it", x.color(11, 4), 0);
-        CHECK.due("right of it", x.color(11, 13), 0);
-        CHECK.due("above it", x.color(10, 5), 0);
-        CHECK.due("below it", x.color(19, 5), 0);
     }
 
     private static void colorOfTheFirst() {
@@ -295,7 +294,9 @@ public final class ScreenTest {
         CHECK.due("upper left", x.color(0, 0), 2);
         CHECK.due("right of it", x.color(0, 1), 0);
         CHECK.due("below it", x.color(1, 0), 0);
+        CHECK.due("columns", x.line(0, 2), 1);
         x.move(0, 31, 31);
+        CHECK.due("columns", x.line(31, 2), 1);
         CHECK.due("lower right", x.color(31, 31), 1);
         CHECK.due("left of it", x.color(31, 30), 0);
         CHECK.due("above it", x.color(30, 31), 0);

@@ -11,6 +11,7 @@ public final class TextTest {
         faults();
         tooLongRows();
         drawErrors();
+        eachReadingBeginsAnew();
         CHECK.end("TextTest");
     }
 
@@ -110,6 +111,9 @@ public final class TextTest {
             CHECK.due("another part stays", x.share(1), 0);
             rows = rows + "/" + text;
         }
+        SpriteLines x = Scenes.parts("3x8/3x8/3x8/3x8/3x8/3x8/3x8/3x8");
+        CHECK.due("draw of 8 rows", Scenes.draw(x, 0, "1.x7/.x8/.x8/.x8/.x8/.x8/.x8/.x72"), 8);
+        CHECK.due("nothing else stays", x.share(0), 2 / 64.0);
     }
 
     private static void faults() {
@@ -199,5 +203,17 @@ public final class TextTest {
         CHECK.due("states then", x.count(12), 2);
         x.undo();
         CHECK.due("undone", x.share(0), 0);
+    }
+
+    /** What a text ended with means nothing for the next one. */
+    private static void eachReadingBeginsAnew() {
+        SpriteLines x = Scenes.parts("");
+        CHECK.due("ends with a pixel", Scenes.draw(x, 0, "11111111"), 1);
+        CHECK.due("an x at the beginning", Scenes.draw(x, 0, "x2111111"), -100);
+        CHECK.due("ends with an x", Scenes.draw(x, 0, "1x"), -102);
+        CHECK.due("a row", Scenes.draw(x, 0, "2x8"), 1);
+        CHECK.due("ends in the second row", Scenes.draw(x, 0, "2x8/33"), -106);
+        CHECK.due("a row", Scenes.draw(x, 0, ".x8"), 1);
+        CHECK.due("drawn last", x.share(0), 0);
     }
 }
