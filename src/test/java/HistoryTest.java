@@ -108,20 +108,28 @@ public final class HistoryTest {
     private static void actsAreRecorded() {
         int number = 0;
         for (ToIntFunction<SpriteLines> act : acts()) {
-            SpriteLines x = busy();
-            x.keep(1);
-            x.undo();
-            x.undo();
-            String told = Scenes.told(x);
-            String act0 = "act " + number;
-            CHECK.holds(act0 + " is no error", act.applyAsInt(x) >= 0);
-            CHECK.due(act0 + ": states", x.count(12), 4);
-            CHECK.holds(act0 + " changes what is told", !Scenes.told(x).equals(told));
-            CHECK.due(act0 + ": undo()", x.undo(), 3);
-            CHECK.holds(act0 + " is undone", Scenes.told(x).equals(told));
-            CHECK.due(act0 + ": the text stays", x.count(13), 7);
+            String name = "act " + number;
+            SpriteLines x = busyWithThreeStates();
+            String before = Scenes.told(x);
+            CHECK.holds(name + " is no error", act.applyAsInt(x) >= 0);
+            CHECK.holds(name + " changes what is told", !Scenes.told(x).equals(before));
+            // Another object, as all that is told twice is most of the calls of one.
+            SpriteLines y = busyWithThreeStates();
+            act.applyAsInt(y);
+            CHECK.due(name + ": states", y.count(12), 4);
+            CHECK.due(name + ": undo()", y.undo(), 3);
+            CHECK.holds(name + " is undone", Scenes.told(y).equals(before));
+            CHECK.due(name + ": the text stays", y.count(13), 7);
             number++;
         }
+    }
+
+    private static SpriteLines busyWithThreeStates() {
+        SpriteLines x = busy();
+        x.keep(1);
+        x.undo();
+        x.undo();
+        return x;
     }
 
     private static void othersAreNot() {

@@ -15,6 +15,7 @@ public final class PackTest {
         removesAll();
         numbersInOrder();
         undone();
+        fullSheet();
         CHECK.end("PackTest");
     }
 
@@ -191,8 +192,7 @@ public final class PackTest {
     }
 
     private static void undone() {
-        SpriteLines x = Scenes.parts(ODD, "", ODD, "3.x7");
-        copyMirrored(x, 0, 1, 2);
+        SpriteLines x = Scenes.parts(ODD, "", "1...32.1/.x73/.x62.", "3.x7");
         x.addSprite(2, 1, 1);
         x.set(0, 1, 3);
         x.addSprite(3, 12, 12);
@@ -204,5 +204,39 @@ public final class PackTest {
         CHECK.due("pack(false)", x.pack(false), 1);
         CHECK.due("part of 1", x.sprite(1, 0), 2);
         CHECK.due("way of 0", x.sprite(0, 1), 2);
+    }
+
+    private static void fullSheet() {
+        SpriteLines x = new SpriteLines();
+        for (int part = 0; part < 24; part++) {
+            x.addPart();
+            x.setPixel(part, 0, 0, part / 8 + 1);
+            if (part % 2 == 1) {
+                x.setPixel(part, 4, 4, 3);
+            }
+        }
+        for (int sprite = 0; sprite < 20; sprite++) {
+            x.addSprite(23 - sprite, sprite, 0);
+        }
+        CHECK.due("pack(false)", x.pack(false), 18);
+        CHECK.due("parts", x.count(0), 6);
+        CHECK.due("part of 0", x.sprite(0, 0), 5);
+        CHECK.due("part of 15", x.sprite(15, 0), 2);
+        CHECK.due("part of 19", x.sprite(19, 0), 0);
+        x.undo();
+        CHECK.due("parts again", x.count(0), 24);
+        // The four lowest parts are shown by none, but others that are alike are.
+        CHECK.due("pack(true)", x.pack(true), 18);
+        CHECK.due("undo()", x.undo(), 4);
+        for (int part = 0; part < 24; part++) {
+            for (int bit = 0; bit < 5; bit++) {
+                x.setPixel(part, 2, bit, (part + 1 >> bit & 1) + 1);
+            }
+        }
+        CHECK.due("pack(false) of a sheet with none alike", x.pack(false), SpriteLines.NONE);
+        CHECK.due("pack(true)", x.pack(true), 4);
+        CHECK.due("part of 0", x.sprite(0, 0), 19);
+        CHECK.due("part of 19", x.sprite(19, 0), 0);
+        CHECK.due("pixel", x.pixel(19, 0, 0), 3);
     }
 }

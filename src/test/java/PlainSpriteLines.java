@@ -68,6 +68,14 @@ public final class PlainSpriteLines {
         }
     }
 
+    int parts() {
+        return whole.parts.size();
+    }
+
+    int sprites() {
+        return whole.sprites.size();
+    }
+
     private static int[][] copyOf(int[][] rows) {
         int[][] copy = new int[rows.length][];
         for (int i = 0; i < rows.length; i++) {

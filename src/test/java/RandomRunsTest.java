@@ -136,11 +136,11 @@ public final class RandomRunsTest {
     }
 
     private int part() {
-        return within(Math.max(1, lines.count(0)));
+        return within(Math.max(1, plain.parts()));
     }
 
     private int sprite() {
-        return within(Math.max(1, lines.count(1)));
+        return within(Math.max(1, plain.sprites()));
     }
 
     private int place() {
