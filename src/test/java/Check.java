@@ -16,10 +16,19 @@ final class Check {
         due(what, condition ? 1 : 0, 1);
     }
 
+    int right() {
+        return right;
+    }
+
+    /** Whether there were answers, and all of them the due ones. */
+    boolean passes() {
+        return wrong == 0 && right > 0;
+    }
+
     /** Prints the outcome; ends the program with exit code 1 if an answer was wrong. */
     void end(String name) {
         System.out.println("  " + name + ": " + right + " answers as due, " + wrong + " not");
-        if (wrong > 0 || right == 0) {
+        if (!passes()) {
             System.exit(1);
         }
     }
