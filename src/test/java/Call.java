@@ -55,8 +55,22 @@ final class Call {
     }
 
     double answer(SpriteLines lines) {
+        return answer(method, lines);
+    }
+
+    /** What the second writing of the document answers. */
+    double answer(PlainSpriteLines plain) {
         try {
-            return ((Number) method.invoke(lines, arguments)).doubleValue();
+            return answer(PlainSpriteLines.class.getMethod(method.getName(),
+                    method.getParameterTypes()), plain);
+        } catch (NoSuchMethodException missing) {
+            throw new IllegalStateException("PlainSpriteLines has no " + method.getName(), missing);
+        }
+    }
+
+    private double answer(Method called, Object object) {
+        try {
+            return ((Number) called.invoke(object, arguments)).doubleValue();
         } catch (InvocationTargetException thrown) {
             throw new IllegalStateException(text + " threw " + thrown.getCause(), thrown.getCause());
         } catch (IllegalAccessException notPublic) {

@@ -135,6 +135,23 @@ final class HistorySentences implements Errors {
         text.with("clearText()", "undo()").due("count(13)", 0);
     }
 
+    @Holds(at = "Terms", words = "A state is everything but")
+    static void aFullState(Check check) {
+        // The last ones of all there can be are in a state as the first ones are.
+        Run run = new Run(check).times(24, "addPart()").times(20, "addSprite(0, 0, 0)");
+        run.with("setPixel(23, 7, 7, 3)", "set(19, 0, 23)", "set(19, 1, 3)", "set(19, 2, 3)",
+                "move(19, 31, 31)", "setColor(3, 3, 63)", "swap(31, 31, 2, 3)", "keep(0)");
+        String state = Portrait.ofState(run.calls());
+        for (String act : new String[] {"setPixel(23, 7, 7, 1)", "setPixel(23, 7, 7, 2)",
+            "set(19, 0, 22)", "set(19, 1, 0)", "set(19, 2, 0)", "set(19, 3, 0)",
+            "move(19, 30, 31)", "move(19, 31, 30)", "setColor(3, 3, 0)", "swap(31, 31, 0, 0)",
+            "swap(31, 31, 2, 1)", "swap(31, 31, 0, 3)", "pack(false)", "pack(true)"}) {
+            run.change(act);
+            Run restored = run.copy().with(act, "restore(0)");
+            check.holds("behind " + act, Portrait.ofState(restored.calls()).equals(state));
+        }
+    }
+
     // ---- Promise 16
 
     @Holds(at = "Promise 16", words = "Restores the latest state of the history.")

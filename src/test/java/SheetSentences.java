@@ -176,11 +176,11 @@ final class SheetSentences implements Errors {
     @Holds(at = "Promise 3", words = "Sets a pixel of a part.")
     static void setPixel(Check check) {
         for (int[] at : new int[][] {{0, 0}, {0, 7}, {3, 4}, {7, 0}, {7, 7}}) {
-            Run run = new Run(check).parts("", "", "");
-            run.due("setPixel(1, " + at[0] + ", " + at[1] + ", 2)", 0);
+            Run run = new Run(check).parts("", FULL_ROWS, "");
+            run.due("setPixel(1, " + at[0] + ", " + at[1] + ", 0)", at[0] % 3 + 1);
             for (int row = 0; row < 8; row++) {
                 for (int column = 0; column < 8; column++) {
-                    int due = row == at[0] && column == at[1] ? 2 : 0;
+                    int due = row == at[0] && column == at[1] ? 0 : row % 3 + 1;
                     run.due("pixel(1, " + row + ", " + column + ")", due);
                 }
             }

@@ -132,6 +132,10 @@ final class TextSentences implements Errors {
             drawn(check, before + "2x2" + ".".repeat(6 - place), before + "22" + ".".repeat(6
                     - place));
         }
+        // Nor does it stand behind the pixel that a text before this one ended with.
+        Run again = new Run(check).with("addPart()").text("11111111").due("draw(0)", 1);
+        again.text("x8").refused("draw(0)", -100).text("1x").refused("draw(0)", -102);
+        again.text("8").refused("draw(0)", -100).text("2x8").due("draw(0)", 1);
         // Not at the beginning of a row, nor behind an item that has one already.
         fault(check, "x8", 0);
         fault(check, "x", 0);

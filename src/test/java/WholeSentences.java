@@ -148,6 +148,27 @@ final class WholeSentences implements Errors {
         Run late = new Run(check).times(10, "next(100000)");
         late.refused("next(0)", BAD_VALUE).refused("next(100001)", BAD_VALUE);
         late.refused("next(100000)", NOT_POSSIBLE);
+        answersAsPlain(check, new Run(check));
+        answersAsPlain(check, ordinary(check));
+        answersAsPlain(check, full(new Run(check)));
+    }
+
+    /** All calls at and beyond all edges must answer as the second writing of the document does. */
+    private static void answersAsPlain(Check check, Run run) {
+        for (Method method : SpriteLines.class.getMethods()) {
+            if (method.getDeclaringClass() == SpriteLines.class) {
+                for (String call : callsAtEdges(method)) {
+                    PlainSpriteLines plain = new PlainSpriteLines();
+                    for (String before : run.calls()) {
+                        Call.of(before).answer(plain);
+                    }
+                    double due = Call.of(call).answer(plain);
+                    double got = Call.of(call).answer(Call.made(run.calls()));
+                    check.due(got == due ? call : "behind " + Call.told(run.calls()) + ": " + call,
+                            got, due);
+                }
+            }
+        }
     }
 
     @Holds(at = "Terms", words = "NONE is returned only if no error applies.")
@@ -208,36 +229,52 @@ final class WholeSentences implements Errors {
 
     /** Of the calls of a method, with arguments at and beyond all edges, those that are refused. */
     private static List<String> refused(Run run, Method method) {
-        List<String> all = new ArrayList<>(List.of(method.getName() + "("));
-        for (int i = 0; i < method.getParameterCount(); i++) {
-            List<String> longer = new ArrayList<>();
-            for (String start : all) {
-                for (String value : values(method.getParameterTypes()[i], all.size())) {
-                    longer.add(start + (i == 0 ? "" : ", ") + value);
-                }
-            }
-            all = longer;
-        }
         List<String> refused = new ArrayList<>();
-        for (String start : all) {
+        for (String call : callsAtEdges(method)) {
             // Each on an object of its own, as this one is good for 512 calls only.
-            if (Call.of(start + ")").answer(Call.made(run.calls())) < 0) {
-                refused.add(start + ")");
+            if (Call.of(call).answer(Call.made(run.calls())) < 0) {
+                refused.add(call);
             }
         }
         return refused;
     }
 
-    private static String[] values(Class<?> type, int startsSoFar) {
+    private static List<String> callsAtEdges(Method method) {
+        List<String> starts = new ArrayList<>(List.of(method.getName() + "("));
+        for (int i = 0; i < method.getParameterCount(); i++) {
+            List<String> longer = new ArrayList<>();
+            for (String start : starts) {
+                for (String value : values(method.getParameterTypes()[i],
+                            method.getParameterCount())) {
+                    longer.add(start + (i == 0 ? "" : ", ") + value);
+                }
+            }
+            starts = longer;
+        }
+        List<String> calls = new ArrayList<>();
+        for (String start : starts) {
+            calls.add(start + ")");
+        }
+        return calls;
+    }
+
+    /** Fewer values for the longer calls: these are many anyway. */
+    private static String[] values(Class<?> type, int parameters) {
         if (type == boolean.class) {
             return new String[] {"false", "true"};
         }
         if (type == char.class) {
             return new String[] {"'1'", "'/'", "0", "65535"};
         }
-        // Fewer for the last arguments of long calls: these are many anyway.
-        return startsSoFar > 100 ? new String[] {"-1", "0", "3", "4", "64"}
-                : new String[] {"-2147483648", "-8", "-1", "0", "3", "8", "24", "32", "100001",
-                    "2147483647"};
+        if (parameters > 3) {
+            return new String[] {"-1", "0", "3", "4", "7", "8", "32"};
+        }
+        if (parameters > 2) {
+            return new String[] {"-2147483648", "-8", "-7", "-1", "0", "3", "4", "24", "31", "32",
+                "64", "2147483647"};
+        }
+        return new String[] {"-2147483648", "-8", "-7", "-1", "0", "1", "2", "3", "4", "5", "7", "8",
+            "9", "13", "14", "19", "20", "21", "23", "24", "25", "31", "32", "63", "64", "99999",
+            "100000", "100001", "2147483647"};
     }
 }
