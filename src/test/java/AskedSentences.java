@@ -1,13 +1,6 @@
 /** The sentences on what is asked of lines, meetings and the whole: promises 24 to 29. */
 final class AskedSentences implements Errors {
-    private static final String FULL_ROWS = "1x8/1x8/1x8/1x8/1x8/1x8/1x8/1x8";
-
     private AskedSentences() {
-    }
-
-    /** One part that is filled, and so many sprites that show it at one place. */
-    private static Run stack(Check check, int sprites, int x, int y) {
-        return new Run(check).parts(FULL_ROWS).times(sprites, "addSprite(0, " + x + ", " + y + ")");
     }
 
     // ---- Promise 24
@@ -18,7 +11,7 @@ final class AskedSentences implements Errors {
         for (int what = 0; what < 5; what++) {
             run.range("line(%, " + what + ")", 0, 31, UNKNOWN);
         }
-        Run ends = stack(check, 1, 0, -7).with("addSprite(0, 0, 31)");
+        Run ends = Run.stack(check, 1, 0, -7).with("addSprite(0, 0, 31)");
         for (int line = 0; line < 32; line++) {
             ends.due("line(" + line + ", 1)", line == 0 || line == 31 ? 1 : 0);
         }
@@ -26,7 +19,7 @@ final class AskedSentences implements Errors {
 
     @Holds(at = "Promise 24", words = "0 for the sprites that are on and cover it")
     static void lineCovering(Check check) {
-        Run run = stack(check, 20, 0, 24).due("line(31, 0)", 20).due("line(24, 0)", 20);
+        Run run = Run.stack(check, 20, 0, 24).due("line(31, 0)", 20).due("line(24, 0)", 20);
         run.due("line(23, 0)", 0).with("set(19, 3, 0)").due("line(31, 0)", 19);
         run.with("move(0, 0, 25)").due("line(24, 0)", 18).due("line(25, 0)", 19);
         run.with("move(0, 0, -7)").due("line(0, 0)", 1).due("line(1, 0)", 0).with("setLimit(1)");
@@ -38,7 +31,7 @@ final class AskedSentences implements Errors {
     @Holds(at = "Promise 24", words = "1 for those that it shows")
     static void lineShowing(Check check) {
         for (int sprites = 0; sprites <= 20; sprites++) {
-            Run run = stack(check, sprites, 0, 0).due("line(0, 1)", Math.min(sprites, 4));
+            Run run = Run.stack(check, sprites, 0, 0).due("line(0, 1)", Math.min(sprites, 4));
             run.with("setLimit(1)").due("line(7, 1)", Math.min(sprites, 1)).with("setLimit(20)");
             run.due("line(7, 1)", sprites).due("line(8, 1)", 0).with("setLimit(19)");
             run.due("line(0, 1)", Math.min(sprites, 19));
@@ -86,7 +79,7 @@ final class AskedSentences implements Errors {
 
     @Holds(at = "Promise 25", words = "`line`: a line")
     static void weightLine(Check check) {
-        Run run = stack(check, 1, 0, -7).with("addSprite(0, 0, 31)");
+        Run run = Run.stack(check, 1, 0, -7).with("addSprite(0, 0, 31)");
         for (int line = 0; line < 32; line++) {
             run.due("weight(" + line + ")", line == 0 || line == 31 ? 1 : 0);
         }
@@ -94,13 +87,13 @@ final class AskedSentences implements Errors {
 
     @Holds(at = "Promise 25", words = "Returns its weight; 0 if there is no such line.")
     static void weightAnswers(Check check) {
-        Run run = new Run(check).parts(FULL_ROWS, "1.x7").with("setLimit(20)");
+        Run run = new Run(check).parts(Scenes.FILLED, "1.x7").with("setLimit(20)");
         for (int sprite = 0; sprite < 20; sprite++) {
             run.due("weight(0)", sprite / 2 + (sprite + 1) / 2 / 64.0);
             run.with("addSprite(" + (sprite + 1) % 2 + ", 0, 0)");
         }
         run.due("weight(0)", 10 + 10 / 64.0).due("weight(7)", 10 + 10 / 64.0).due("weight(8)", 0);
-        Run all = stack(check, 4, 0, 0).times(4, "addSprite(0, 0, 24)");
+        Run all = Run.stack(check, 4, 0, 0).times(4, "addSprite(0, 0, 24)");
         for (int line : new int[] {-1, 32, 33, -32, 64, Integer.MIN_VALUE, Integer.MAX_VALUE}) {
             all.due("weight(" + line + ")", 0);
         }
@@ -111,7 +104,7 @@ final class AskedSentences implements Errors {
 
     @Holds(at = "Promise 26", words = "`line`: a line")
     static void shownLine(Check check) {
-        Run run = new Run(check).parts(FULL_ROWS).with("setLimit(1)");
+        Run run = new Run(check).parts(Scenes.FILLED).with("setLimit(1)");
         for (int line = 0; line < 32; line += 8) {
             run.with("addSprite(0, 0, " + line + ")");
         }
@@ -127,7 +120,7 @@ final class AskedSentences implements Errors {
     @Holds(at = "Promise 26",
             words = "`place`: a place among the sprites that it shows, in the order of turns, from 0")
     static void shownPlace(Check check) {
-        Run run = stack(check, 20, 0, 0).with("setLimit(20)", "setStride(7)", "next(1)");
+        Run run = Run.stack(check, 20, 0, 0).with("setLimit(20)", "setStride(7)", "next(1)");
         for (int place = 0; place < 20; place++) {
             run.due("shown(0, " + place + ")", (place + 7) % 20);
         }
@@ -139,7 +132,7 @@ final class AskedSentences implements Errors {
     @Holds(at = "Promise 26", words = "Returns the sprite; UNKNOWN; BAD_VALUE if place is negative;"
             + " NONE if there are not so many.")
     static void shownAnswers(Check check) {
-        Run run = stack(check, 3, 0, 0);
+        Run run = Run.stack(check, 3, 0, 0);
         int[][] values = {{7, -1, 32}, {0, -1, Integer.MIN_VALUE}};
         run.combinations("shown(%, %)", values, UNKNOWN, BAD_VALUE);
         run.due("shown(0, 2)", 2);
@@ -148,7 +141,7 @@ final class AskedSentences implements Errors {
             run.refused("shown(32, " + place + ")", UNKNOWN);
         }
         for (int shown = 0; shown <= 5; shown++) {
-            Run some = stack(check, shown, 0, 0);
+            Run some = Run.stack(check, shown, 0, 0);
             some.refused("shown(0, " + Math.min(shown, 4) + ")", NONE).refused("shown(8, 0)", NONE);
             some.refused("shown(0, -1)", BAD_VALUE).refused("shown(8, -1)", BAD_VALUE);
         }
@@ -159,19 +152,19 @@ final class AskedSentences implements Errors {
     @Holds(at = "Promise 27", words = "`one`: a sprite")
     static void meetOne(Check check) {
         new Run(check).with("addPart()").refused("meet(0, 1)", UNKNOWN);
-        stack(check, 1, 0, 0).refused("meet(1, 0)", UNKNOWN).refused("meet(-1, 0)", UNKNOWN);
-        Run run = stack(check, 4, 0, 0).taken("meet(0, 3)").taken("meet(1, 3)").taken("meet(2, 3)");
+        Run.stack(check, 1, 0, 0).refused("meet(1, 0)", UNKNOWN).refused("meet(-1, 0)", UNKNOWN);
+        Run run = Run.stack(check, 4, 0, 0).taken("meet(0, 3)").taken("meet(1, 3)").taken("meet(2, 3)");
         for (int sprite : new int[] {-1, 4, 5, 20, Integer.MIN_VALUE, Integer.MAX_VALUE}) {
             run.refused("meet(" + sprite + ", 3)", UNKNOWN);
         }
-        stack(check, 20, 0, 0).taken("meet(19, 0)").refused("meet(20, 0)", UNKNOWN);
+        Run.stack(check, 20, 0, 0).taken("meet(19, 0)").refused("meet(20, 0)", UNKNOWN);
     }
 
     @Holds(at = "Promise 27", words = "`other`: another sprite")
     static void meetOther(Check check) {
-        stack(check, 1, 0, 0).refused("meet(0, 1)", UNKNOWN).refused("meet(0, -1)", UNKNOWN);
-        stack(check, 1, 0, 0).refused("meet(0, 0)", BAD_VALUE);
-        Run run = stack(check, 20, 0, 0).taken("meet(0, 19)").refused("meet(0, 20)", UNKNOWN);
+        Run.stack(check, 1, 0, 0).refused("meet(0, 1)", UNKNOWN).refused("meet(0, -1)", UNKNOWN);
+        Run.stack(check, 1, 0, 0).refused("meet(0, 0)", BAD_VALUE);
+        Run run = Run.stack(check, 20, 0, 0).taken("meet(0, 19)").refused("meet(0, 20)", UNKNOWN);
         for (int sprite = 0; sprite < 20; sprite++) {
             run.refused("meet(" + sprite + ", " + sprite + ")", BAD_VALUE);
         }
@@ -180,7 +173,7 @@ final class AskedSentences implements Errors {
     @Holds(at = "Promise 27", words = "Returns 1 if they meet, otherwise 0; UNKNOWN; BAD_VALUE if"
             + " both are the same.")
     static void meetAnswers(Check check) {
-        Run run = stack(check, 3, 10, 10);
+        Run run = Run.stack(check, 3, 10, 10);
         run.due("meet(0, 1)", 1).due("meet(1, 0)", 1).with("move(0, 17, 17)").due("meet(0, 1)", 1);
         run.with("move(0, 18, 17)").due("meet(0, 1)", 0).due("meet(1, 0)", 0);
         run.with("move(0, 17, 18)").due("meet(0, 1)", 0).with("move(0, 3, 3)").due("meet(1, 0)", 1);
@@ -201,7 +194,7 @@ final class AskedSentences implements Errors {
     static void shownIn(Check check) {
         for (int sprites : new int[] {1, 2, 5, 20}) {
             for (int stride : new int[] {0, 1, 3, 19}) {
-                Run run = stack(check, sprites, 0, 0).with("setStride(" + stride + ")", "setLimit(2)");
+                Run run = Run.stack(check, sprites, 0, 0).with("setStride(" + stride + ")", "setLimit(2)");
                 run.with("next(4)");
                 for (int sprite = 0; sprite < sprites; sprite++) {
                     shownIn(run, sprite);
@@ -209,7 +202,7 @@ final class AskedSentences implements Errors {
             }
         }
         // The frame stays, and no state is recorded.
-        Run run = stack(check, 9, 0, 0).with("setStride(1)", "setLimit(1)").due("shownIn(0, 8)", 8);
+        Run run = Run.stack(check, 9, 0, 0).with("setStride(1)", "setLimit(1)").due("shownIn(0, 8)", 8);
         run.due("count(8)", 0).due("count(12)", 5).due("shown(0, 0)", 0);
     }
 
@@ -227,7 +220,7 @@ final class AskedSentences implements Errors {
 
     @Holds(at = "Promise 28", words = "`line`: a line")
     static void shownInLine(Check check) {
-        Run run = new Run(check).parts(FULL_ROWS);
+        Run run = new Run(check).parts(Scenes.FILLED);
         for (int line = 0; line < 32; line += 8) {
             run.with("addSprite(0, 0, " + line + ")");
         }
@@ -242,8 +235,8 @@ final class AskedSentences implements Errors {
     @Holds(at = "Promise 28", words = "`sprite`: a sprite")
     static void shownInSprite(Check check) {
         new Run(check).with("addPart()").refused("shownIn(0, 0)", UNKNOWN);
-        stack(check, 3, 0, 0).range("shownIn(0, %)", 0, 2, UNKNOWN);
-        stack(check, 20, 0, 0).with("setLimit(20)").taken("shownIn(0, 19)")
+        Run.stack(check, 3, 0, 0).range("shownIn(0, %)", 0, 2, UNKNOWN);
+        Run.stack(check, 20, 0, 0).with("setLimit(20)").taken("shownIn(0, 19)")
                 .refused("shownIn(0, 20)", UNKNOWN).refused("shownIn(31, 20)", UNKNOWN);
     }
 
@@ -251,7 +244,7 @@ final class AskedSentences implements Errors {
             words = "Returns the frames, 0 to 20; UNKNOWN; NONE if it does not within 20 frames.")
     static void shownInAnswers(Check check) {
         // With 20 sprites and the limit 1 the order comes to each sprite in 0 to 19 frames.
-        Run run = stack(check, 20, 0, 0).with("setLimit(1)", "setStride(1)");
+        Run run = Run.stack(check, 20, 0, 0).with("setLimit(1)", "setStride(1)");
         for (int sprite = 0; sprite < 20; sprite++) {
             run.due("shownIn(7, " + sprite + ")", sprite);
         }
@@ -263,7 +256,7 @@ final class AskedSentences implements Errors {
         int[][] values = {{0, -1, 32}, {0, -1, 20}};
         run.combinations("shownIn(%, %)", values, UNKNOWN, UNKNOWN);
         // The frames ahead are looked at also where next() would not go any more.
-        Run late = stack(check, 3, 0, 0).with("setLimit(1)", "setStride(1)").times(10, "next(100000)");
+        Run late = Run.stack(check, 3, 0, 0).with("setLimit(1)", "setStride(1)").times(10, "next(100000)");
         late.due("shownIn(0, 1)", 0).due("shownIn(0, 2)", 1).due("shownIn(0, 0)", 2);
     }
 
@@ -295,7 +288,7 @@ final class AskedSentences implements Errors {
     @Holds(at = "Promise 29",
             words = "3 for lines that cannot show all sprites that are on and cover them")
     static void countOverfullLines(Check check) {
-        Run run = stack(check, 4, 0, 0).due("count(3)", 0).with("addSprite(0, 0, 3)");
+        Run run = Run.stack(check, 4, 0, 0).due("count(3)", 0).with("addSprite(0, 0, 3)");
         run.due("count(3)", 5).with("set(0, 3, 0)").due("count(3)", 0).with("set(0, 3, 1)");
         run.with("move(4, 0, 8)").due("count(3)", 0).with("setLimit(3)").due("count(3)", 8);
         run.with("setLimit(5)").due("count(3)", 0).with("move(4, 0, -7)").due("count(3)", 0);
@@ -303,7 +296,7 @@ final class AskedSentences implements Errors {
         // Sprites that stand side by side take their places as well.
         Run wide = new Run(check).with("addPart()", "setLimit(1)", "addSprite(0, -7, 31)");
         wide.due("count(3)", 0).with("addSprite(0, 31, 31)").due("count(3)", 1);
-        stack(check, 20, 0, 24).with("setLimit(19)").due("count(3)", 8).with("setLimit(20)").due(
+        Run.stack(check, 20, 0, 24).with("setLimit(19)").due("count(3)", 8).with("setLimit(20)").due(
                 "count(3)", 0);
     }
 
@@ -333,19 +326,19 @@ final class AskedSentences implements Errors {
 
     @Holds(at = "Promise 29", words = "6 for pairs of sprites that meet")
     static void countPairs(Check check) {
-        Run run = new Run(check).parts(FULL_ROWS).due("count(6)", 0).with("setLimit(20)");
+        Run run = new Run(check).parts(Scenes.FILLED).due("count(6)", 0).with("setLimit(20)");
         for (int sprites = 1; sprites <= 20; sprites++) {
             run.with("addSprite(0, 9, 9)").due("count(6)", sprites * (sprites - 1) / 2);
         }
         run.with("set(0, 3, 0)").due("count(6)", 171).with("setLimit(2)").due("count(6)", 1);
         run.with("setLimit(1)").due("count(6)", 0);
         // A chain: each meets the next one only.
-        Run chain = new Run(check).parts(FULL_ROWS).with("setLimit(20)");
+        Run chain = new Run(check).parts(Scenes.FILLED).with("setLimit(20)");
         for (int sprite = 0; sprite < 5; sprite++) {
             chain.with("addSprite(0, " + 5 * sprite + ", 0)").due("count(6)", sprite);
         }
         // On different lines pairs meet, each is counted once.
-        stack(check, 2, 0, 0).due("count(6)", 1);
+        Run.stack(check, 2, 0, 0).due("count(6)", 1);
     }
 
     @Holds(at = "Promise 29",
@@ -373,16 +366,16 @@ final class AskedSentences implements Errors {
             + " (towards zero) by itself, and added")
     static void countWeights(Check check) {
         new Run(check).due("count(11)", 0);
-        Run run = stack(check, 1, 0, 0).due("count(11)", 8).with("setPixel(0, 7, 7, 0)");
+        Run run = Run.stack(check, 1, 0, 0).due("count(11)", 8).with("setPixel(0, 7, 7, 0)");
         run.due("count(11)", 0).with("addSprite(0, 0, 0)").due("count(11)", 8).with("undo()");
         run.with("undo()", "move(0, 0, -7)").due("count(11)", 1).with("move(0, 0, 31)");
         run.due("count(11)", 1).with("move(0, 0, 24)").due("count(11)", 8);
         // Half a part on two lines each: 1.5 on four lines, 0.5 and 1 on four lines each.
-        Run halves = new Run(check).parts(FULL_ROWS, "1x8/1x8/1x8/1x8").with("addSprite(0, 0, 0)",
+        Run halves = new Run(check).parts(Scenes.FILLED, "1x8/1x8/1x8/1x8").with("addSprite(0, 0, 0)",
                 "addSprite(1, 0, 4)").due("count(11)", 8);
         halves.with("addSprite(1, 0, 4)").due("count(11)", 4 + 4 * 2 + 4);
-        stack(check, 20, 0, 12).with("setLimit(20)").due("count(11)", 160);
-        stack(check, 20, 0, 12).due("count(11)", 32);
+        Run.stack(check, 20, 0, 12).with("setLimit(20)").due("count(11)", 160);
+        Run.stack(check, 20, 0, 12).due("count(11)", 32);
         new Run(check).parts("1x8/1x8/1x8/1x8/1x8/1x8/1x8/1x7.").times(4, "addSprite(0, 0, 0)")
                 .due("weight(0)", 3.9375).due("count(11)", 24);
     }
@@ -411,6 +404,6 @@ final class AskedSentences implements Errors {
     @Holds(at = "Promise 29", words = "Returns the number; BAD_VALUE.")
     static void countAnswers(Check check) {
         new Run(check).range("count(%)", 0, 13, BAD_VALUE);
-        stack(check, 2, 0, 0).range("count(%)", 0, 13, BAD_VALUE);
+        Run.stack(check, 2, 0, 0).range("count(%)", 0, 13, BAD_VALUE);
     }
 }

@@ -1,13 +1,6 @@
-/** The sentences on lines, flicker, meeting and weights: promises 13 to 15 and 24 to 28. */
+/** The sentences on lines, flicker, meeting and weights: the terms, and promises 13 to 15. */
 final class LineSentences implements Errors {
-    private static final String FULL_ROWS = "1x8/1x8/1x8/1x8/1x8/1x8/1x8/1x8";
-
     private LineSentences() {
-    }
-
-    /** One part that is filled, and so many sprites that show it at one place. */
-    private static Run stack(Check check, int sprites, int x, int y) {
-        return new Run(check).parts(FULL_ROWS).times(sprites, "addSprite(0, " + x + ", " + y + ")");
     }
 
     // ---- Terms: Lines and flicker
@@ -15,10 +8,10 @@ final class LineSentences implements Errors {
     @Holds(at = "Terms",
             words = "A line can show at most a limit of sprites (1 to 20, at first 4)")
     static void limitOfALine(Check check) {
-        Run run = stack(check, 4, 0, 0).shows(0, 0, 1, 2, 3).due("count(3)", 0);
+        Run run = Run.stack(check, 4, 0, 0).shows(0, 0, 1, 2, 3).due("count(3)", 0);
         run.with("addSprite(0, 0, 0)").shows(0, 0, 1, 2, 3).due("count(3)", 8).due("count(9)", 4);
         run.range("setLimit(%)", 1, 20, BAD_VALUE);
-        Run crowd = stack(check, 20, 0, 0);
+        Run crowd = Run.stack(check, 20, 0, 0);
         for (int limit = 1; limit <= 20; limit++) {
             int[] shown = new int[limit];
             for (int sprite = 0; sprite < limit; sprite++) {
@@ -31,7 +24,7 @@ final class LineSentences implements Errors {
     @Holds(at = "Terms", words = "of the sprites that are on and cover it, the first ones in an order"
             + " of turns.")
     static void firstOnesThatAreOnAndCover(Check check) {
-        Run run = stack(check, 7, 0, 8).with("set(0, 3, 0)", "move(2, 0, 0)", "move(3, 31, 12)");
+        Run run = Run.stack(check, 7, 0, 8).with("set(0, 3, 0)", "move(2, 0, 0)", "move(3, 31, 12)");
         // A sprite that is off or somewhere else takes no place; where in the line one is, is free.
         run.with("setLimit(3)").shows(8, 1, 4, 5).shows(12, 1, 3, 4).shows(16, 3).shows(7, 2);
         run.shows(20).shows(0, 2);
@@ -44,7 +37,7 @@ final class LineSentences implements Errors {
     static void orderBegins(Check check) {
         for (int sprites : new int[] {1, 2, 3, 7, 19, 20}) {
             for (int stride : new int[] {0, 1, 2, 6, 7, 18, 19}) {
-                Run run = stack(check, sprites, 0, 0).with("setLimit(1)", "setStride(" + stride + ")");
+                Run run = Run.stack(check, sprites, 0, 0).with("setLimit(1)", "setStride(" + stride + ")");
                 run.due("shown(0, 0)", 0);
                 for (int frame = 1; frame <= 22; frame++) {
                     run.with("next(1)").due("shown(0, 0)", frame * stride % sprites);
@@ -52,10 +45,10 @@ final class LineSentences implements Errors {
             }
         }
         // n * s is 19000000 at most.
-        Run late = stack(check, 7, 0, 0).with("setStride(19)").times(10, "next(100000)");
+        Run late = Run.stack(check, 7, 0, 0).with("setStride(19)").times(10, "next(100000)");
         late.due("shown(0, 0)", 19000000 % 7).due("shown(0, 1)", (19000000 + 1) % 7);
         // k counts all sprites, also those that are off or not on the line.
-        Run some = stack(check, 5, 0, 0).with("set(4, 3, 0)", "move(3, 0, 20)", "setStride(4)");
+        Run some = Run.stack(check, 5, 0, 0).with("set(4, 3, 0)", "move(3, 0, 20)", "setStride(4)");
         some.with("next(1)").shows(0, 0, 1, 2).with("next(1)").shows(0, 0, 1, 2);
         some.with("next(1)").shows(0, 2, 0, 1).with("next(1)").shows(0, 1, 2, 0);
         some.with("set(0, 3, 0)", "next(1)").shows(0, 1, 2).with("addSprite(0, 0, 0)");
@@ -65,7 +58,7 @@ final class LineSentences implements Errors {
 
     @Holds(at = "Terms", words = "s the stride (0 to 19, at first 0)")
     static void strideOfTheOrder(Check check) {
-        Run run = stack(check, 20, 0, 0).with("setLimit(1)").due("count(10)", 0).with("next(1)");
+        Run run = Run.stack(check, 20, 0, 0).with("setLimit(1)").due("count(10)", 0).with("next(1)");
         run.range("setStride(%)", 0, 19, BAD_VALUE).due("shown(0, 0)", 0);
         for (int stride = 0; stride <= 19; stride++) {
             run.behind("setStride(" + stride + ")", "shown(0, 0)", stride);
@@ -75,7 +68,7 @@ final class LineSentences implements Errors {
     @Holds(at = "Terms", words = "and goes on by ascending numbers, round and round.")
     static void goesRound(Check check) {
         for (int sprites : new int[] {1, 2, 5, 20}) {
-            Run run = stack(check, sprites, 0, 0).with("setLimit(20)", "setStride(1)");
+            Run run = Run.stack(check, sprites, 0, 0).with("setLimit(20)", "setStride(1)");
             for (int first = 0; first < sprites; first++) {
                 int[] shown = new int[sprites];
                 for (int place = 0; place < sprites; place++) {
@@ -87,7 +80,7 @@ final class LineSentences implements Errors {
             // Behind the last sprite the first one has its turn again.
             run.due("shown(0, 0)", 0);
         }
-        Run limited = stack(check, 6, 0, 0).with("setStride(5)", "next(1)").shows(0, 5, 0, 1, 2);
+        Run limited = Run.stack(check, 6, 0, 0).with("setStride(5)", "next(1)").shows(0, 5, 0, 1, 2);
         limited.with("next(1)").shows(0, 4, 5, 0, 1).with("setLimit(2)").shows(0, 4, 5);
     }
 
@@ -169,7 +162,7 @@ final class LineSentences implements Errors {
 
     @Holds(at = "Terms", words = "on a line that shows both.")
     static void meetingOnLinesThatShowBoth(Check check) {
-        Run run = stack(check, 3, 0, 0).with("move(2, 0, 4)", "setLimit(2)").due("meet(0, 1)", 1);
+        Run run = Run.stack(check, 3, 0, 0).with("move(2, 0, 4)", "setLimit(2)").due("meet(0, 1)", 1);
         run.due("meet(0, 2)", 0).due("meet(1, 2)", 0).with("setStride(1)", "next(1)");
         run.due("meet(1, 2)", 1).due("meet(0, 2)", 0).due("meet(0, 1)", 1).with("setLimit(1)");
         run.due("meet(0, 1)", 0).due("count(6)", 0).with("setLimit(3)").due("count(6)", 3);
@@ -195,7 +188,7 @@ final class LineSentences implements Errors {
         run.due("weight(6)", 8 / 64.0).with("setStride(1)", "next(3)").due("weight(6)", 7 / 64.0);
         run.with("set(0, 3, 0)").due("weight(6)", 8 / 64.0).with("setLimit(1)");
         run.due("weight(6)", 1 / 64.0).with("set(3, 0, 3)").due("weight(6)", 0);
-        Run crowd = stack(check, 20, 31, 31).with("setLimit(20)").due("weight(31)", 20);
+        Run crowd = Run.stack(check, 20, 31, 31).with("setLimit(20)").due("weight(31)", 20);
         crowd.due("weight(30)", 0).with("setPixel(0, 7, 7, 0)").due("weight(31)", 20 * 63 / 64.0);
     }
 
@@ -203,7 +196,7 @@ final class LineSentences implements Errors {
 
     @Holds(at = "Promise 13", words = "Sets the limit of all lines.")
     static void setLimit(Check check) {
-        Run run = stack(check, 3, 0, 0);
+        Run run = Run.stack(check, 3, 0, 0);
         for (int other = 0; other < 9; other++) {
             run.with("addSprite(0, 0, " + (8 + 8 * (other % 3)) + ")");
         }
@@ -237,7 +230,7 @@ final class LineSentences implements Errors {
 
     @Holds(at = "Promise 14", words = "Sets the stride.")
     static void setStride(Check check) {
-        Run run = stack(check, 5, 0, 0).with("setLimit(1)", "setStride(3)", "next(1)");
+        Run run = Run.stack(check, 5, 0, 0).with("setLimit(1)", "setStride(3)", "next(1)");
         run.due("count(10)", 3).due("shown(0, 0)", 3).with("next(1)").due("shown(0, 0)", 1);
         // The order follows from the frame's number, not from what went before.
         run.with("setStride(4)").due("shown(0, 0)", 3).with("setStride(0)").due("shown(0, 0)", 0);
@@ -267,7 +260,7 @@ final class LineSentences implements Errors {
 
     @Holds(at = "Promise 15", words = "Lets frames go by.")
     static void next(Check check) {
-        Run run = stack(check, 3, 0, 0).with("setLimit(1)", "setStride(1)").due("shown(0, 0)", 0);
+        Run run = Run.stack(check, 3, 0, 0).with("setLimit(1)", "setStride(1)").due("shown(0, 0)", 0);
         run.with("next(2)").due("count(8)", 2).due("shown(0, 0)", 2).with("next(2)");
         run.due("count(8)", 4).due("shown(0, 0)", 1).with("next(99999)").due("count(8)", 100003);
         run.due("shown(0, 0)", 100003 % 3);

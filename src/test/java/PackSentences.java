@@ -1,8 +1,5 @@
 /** The sentences on packing: promise 7. */
 final class PackSentences implements Errors {
-    /** Another picture in each way to mirror it, and these pictures. */
-    private static final String[] ODD = {"1.23...1/3.x7/.2.x6", "1...32.1/.x73/.x62.",
-        ".x8/.x8/.x8/.x8/.x8/.2.x6/3.x7/1.23...1", ".x8/.x8/.x8/.x8/.x8/.x62./.x73/1...32.1"};
     /** As itself when mirrored in both: one in two corners; and this one mirrored in x. */
     private static final String FALLING = "1.x7/.x8/.x8/.x8/.x8/.x8/.x8/.x71";
     private static final String RISING = ".x71/.x8/.x8/.x8/.x8/.x8/.x8/1.x7";
@@ -15,15 +12,15 @@ final class PackSentences implements Errors {
     static void theLowestStays(Check check) {
         for (int other = 0; other < 4; other++) {
             for (int one = 0; one < 4; one++) {
-                Run run = new Run(check).parts(ODD[one], ODD[other]).due("pack(false)", 1);
-                run.due("count(0)", 1).text(ODD[one]);
+                Run run = new Run(check).parts(Scenes.ODD[one], Scenes.ODD[other]).due("pack(false)", 1);
+                run.due("count(0)", 1).text(Scenes.ODD[one]);
                 // The part that stays is not mirrored itself.
-                Run same = new Run(check).parts(ODD[one]);
+                Run same = new Run(check).parts(Scenes.ODD[one]);
                 check.holds("part " + one + " stays as it is", Portrait.ofState(same.calls())
                         .equals(Portrait.ofState(run.calls())));
             }
         }
-        Run three = new Run(check).parts("2.x7", ODD[2], ODD[0], "3.x7", ODD[1]);
+        Run three = new Run(check).parts("2.x7", Scenes.ODD[2], Scenes.ODD[0], "3.x7", Scenes.ODD[1]);
         three.due("pack(false)", 2).due("count(0)", 3).due("pixel(0, 0, 0)", 2);
         three.due("pixel(1, 7, 0)", 1).due("pixel(2, 0, 0)", 3);
         new Run(check).parts("1.x7", "2.x7").refused("pack(false)", NONE);
@@ -37,7 +34,7 @@ final class PackSentences implements Errors {
     static void theScreenStays(Check check) {
         for (int other = 0; other < 4; other++) {
             for (int way = 0; way < 4; way++) {
-                Run run = new Run(check).parts("2x8", ODD[0], ODD[other]);
+                Run run = new Run(check).parts("2x8", Scenes.ODD[0], Scenes.ODD[other]);
                 run.with("addSprite(2, 3, 5)", "set(0, 1, " + way + ")");
                 Run before = run.copy();
                 run.with("pack(false)").due("sprite(0, 0)", 1).due("sprite(0, 1)", way ^ other);
@@ -50,7 +47,7 @@ final class PackSentences implements Errors {
             }
         }
         // A sprite that is off shows its part too, and one that is beyond the limit does.
-        Run hidden = new Run(check).parts(ODD[0], ODD[1]).with("addSprite(1, 0, 0)",
+        Run hidden = new Run(check).parts(Scenes.ODD[0], Scenes.ODD[1]).with("addSprite(1, 0, 0)",
                 "addSprite(1, 0, 0)", "set(0, 3, 0)", "setLimit(1)", "pack(false)");
         hidden.due("sprite(0, 0)", 0).due("sprite(0, 1)", 1).due("sprite(1, 0)", 0);
         hidden.due("sprite(1, 1)", 1).due("sprite(0, 3)", 0);
@@ -66,8 +63,8 @@ final class PackSentences implements Errors {
         ways(check, "1.x7/.x8/.x8/.x8/.x8/.x8/.x8/1.x7",
                 ".x71/.x8/.x8/.x8/.x8/.x8/.x8/.x71", 1, 0, 1, 0);
         ways(check, "", "", 0, 0, 0, 0);
-        ways(check, ODD[0], ODD[0], 0, 1, 2, 3);
-        ways(check, ODD[0], ODD[3], 3, 2, 1, 0);
+        ways(check, Scenes.ODD[0], Scenes.ODD[0], 0, 1, 2, 3);
+        ways(check, Scenes.ODD[0], Scenes.ODD[3], 3, 2, 1, 0);
     }
 
     /** Sprites that show the second part in the ways 0 to 3 show the first one in these ways. */
@@ -165,7 +162,7 @@ final class PackSentences implements Errors {
 
     @Holds(at = "Promise 7", words = "This is an act.")
     static void packIsAnAct(Check check) {
-        Run run = new Run(check).parts(ODD[0], ODD[1], "1.x7").with("addSprite(1, 0, 0)",
+        Run run = new Run(check).parts(Scenes.ODD[0], Scenes.ODD[1], "1.x7").with("addSprite(1, 0, 0)",
                 "set(0, 1, 2)");
         run.change("pack(false)").change("pack(true)").times(5, "next(1)").change("pack(true)");
         // One that answers NONE records nothing.
@@ -179,7 +176,8 @@ final class PackSentences implements Errors {
             words = "`removed`: whether parts that no sprite shows (behind the uniting) are removed")
     static void packRemoved(Check check) {
         // The part 0 is shown behind the uniting only, the part 2 before it only.
-        Run run = new Run(check).parts(ODD[0], "2.x7", ODD[3], "2.x7").with("addSprite(2, 0, 0)");
+        Run run = new Run(check).parts(Scenes.ODD[0], "2.x7", Scenes.ODD[3], "2.x7");
+        run.with("addSprite(2, 0, 0)");
         run.copy().due("pack(false)", 2).due("count(0)", 2).due("count(7)", 1);
         run.due("pack(true)", 3).due("count(0)", 1).due("count(7)", 0).due("sprite(0, 0)", 0);
         run.due("sprite(0, 1)", 3).row(0, 0, "1.23...1");

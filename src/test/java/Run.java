@@ -16,6 +16,12 @@ final class Run {
         this.check = check;
     }
 
+    /** One part that is filled, and so many sprites that show it at one place. */
+    static Run stack(Check check, int sprites, int x, int y) {
+        return new Run(check).parts(Scenes.FILLED).times(sprites,
+                "addSprite(0, " + x + ", " + y + ")");
+    }
+
     Run copy() {
         Run copy = new Run(check);
         for (String call : calls) {

@@ -1,5 +1,11 @@
 /** Steps that many tests begin with. */
 final class Scenes {
+    /** A part that is filled with 1. */
+    static final String FILLED = "1x8/1x8/1x8/1x8/1x8/1x8/1x8/1x8";
+    /** Another picture in each way to mirror it: not mirrored, in x, in y, in both. */
+    static final String[] ODD = {"1.23...1/3.x7/.2.x6", "1...32.1/.x73/.x62.",
+        ".x8/.x8/.x8/.x8/.x8/.2.x6/3.x7/1.23...1", ".x8/.x8/.x8/.x8/.x8/.x62./.x73/1...32.1"};
+
     private Scenes() {
     }
 
@@ -32,7 +38,7 @@ final class Scenes {
 
     /** One part that is filled with 1, and so many sprites that show it at the same place. */
     static SpriteLines stack(int sprites, int x, int y) {
-        SpriteLines lines = parts("1x8/1x8/1x8/1x8/1x8/1x8/1x8/1x8");
+        SpriteLines lines = parts(FILLED);
         for (int i = 0; i < sprites; i++) {
             lines.addSprite(0, x, y);
         }

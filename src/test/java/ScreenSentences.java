@@ -2,7 +2,6 @@
 final class ScreenSentences implements Errors {
     /** Each row and each column is another one: in the corners 1, 2, 3, and nothing. */
     private static final String CORNERS = "1.x62/.x8/.x8/.x8/.x8/.x8/.x8/3.x7";
-    private static final String FULL_ROWS = "1x8/1x8/1x8/1x8/1x8/1x8/1x8/1x8";
 
     private ScreenSentences() {
     }
@@ -13,7 +12,7 @@ final class ScreenSentences implements Errors {
     static void linesAndColumns(Check check) {
         Run run = new Run(check).range("color(%, 31)", 0, 31, UNKNOWN);
         run.range("color(31, %)", 0, 31, UNKNOWN).range("line(%, 0)", 0, 31, UNKNOWN);
-        Run tiled = new Run(check).parts(FULL_ROWS).with("setLimit(20)");
+        Run tiled = new Run(check).parts(Scenes.FILLED).with("setLimit(20)");
         for (int place = 0; place < 16; place++) {
             tiled.with("addSprite(0, " + place % 4 * 8 + ", " + place / 4 * 8 + ")");
         }
@@ -440,7 +439,7 @@ final class ScreenSentences implements Errors {
     @Holds(at = "Promise 22", words = "`line`: a line")
     static void colorLine(Check check) {
         Run run = new Run(check).range("color(%, 0)", 0, 31, UNKNOWN);
-        run.parts(FULL_ROWS).with("addSprite(0, 0, 0)", "addSprite(0, 0, 24)");
+        run.parts(Scenes.FILLED).with("addSprite(0, 0, 0)", "addSprite(0, 0, 24)");
         for (int line = 0; line < 32; line++) {
             run.due("color(" + line + ", 0)", line < 8 || line >= 24 ? 1 : 0);
         }
@@ -449,7 +448,7 @@ final class ScreenSentences implements Errors {
     @Holds(at = "Promise 22", words = "`column`: 0 to 31")
     static void colorColumn(Check check) {
         Run run = new Run(check).range("color(0, %)", 0, 31, UNKNOWN);
-        run.parts(FULL_ROWS).with("addSprite(0, 0, 0)", "addSprite(0, 24, 0)");
+        run.parts(Scenes.FILLED).with("addSprite(0, 0, 0)", "addSprite(0, 24, 0)");
         for (int column = 0; column < 32; column++) {
             run.due("color(0, " + column + ")", column < 8 || column >= 24 ? 1 : 0);
         }
@@ -519,7 +518,7 @@ final class ScreenSentences implements Errors {
 
     @Holds(at = "Promise 23", words = "8 for the number of sprites that it meets")
     static void spriteMeetings(Check check) {
-        Run run = new Run(check).parts(FULL_ROWS).with("addSprite(0, 0, 0)").due("sprite(0, 8)", 0);
+        Run run = new Run(check).parts(Scenes.FILLED).with("addSprite(0, 0, 0)").due("sprite(0, 8)", 0);
         run.with("setLimit(20)");
         for (int others = 1; others < 20; others++) {
             run.with("addSprite(0, 0, 0)").due("sprite(0, 8)", others).due("sprite(" + others

@@ -1,9 +1,6 @@
 /** The sentences on parts, palettes and shares: promises 2, 3, 8 and 19 to 21. */
 final class SheetSentences implements Errors {
     private static final String FULL_ROWS = "1x8/2x8/3x8/1x8/2x8/3x8/1x8/2x8";
-    /** Another picture in each way to mirror it, and these pictures. */
-    private static final String[] ODD = {"1.23...1/3.x7/.2.x6", "1...32.1/.x73/.x62.",
-        ".x8/.x8/.x8/.x8/.x8/.2.x6/3.x7/1.23...1", ".x8/.x8/.x8/.x8/.x8/.x62./.x73/1...32.1"};
 
     private SheetSentences() {
     }
@@ -65,7 +62,7 @@ final class SheetSentences implements Errors {
     @Holds(at = "Terms", words = "Two parts are alike if, mirrored in no, one or both directions,"
             + " one of them has the pixels of the other one.")
     static void alikeParts(Check check) {
-        Run run = new Run(check).parts(ODD);
+        Run run = new Run(check).parts(Scenes.ODD);
         for (int one = 0; one < 4; one++) {
             for (int other = 0; other < 4; other++) {
                 run.due("alike(" + one + ", " + other + ")", one ^ other);
@@ -372,7 +369,7 @@ final class SheetSentences implements Errors {
             + " the pixels of the first one (the lowest number of several); UNKNOWN; NONE if they"
             + " are not alike.")
     static void alikeAnswers(Check check) {
-        new Run(check).parts(ODD).due("alike(0, 0)", 0).due("alike(0, 1)", 1)
+        new Run(check).parts(Scenes.ODD).due("alike(0, 0)", 0).due("alike(0, 1)", 1)
                 .due("alike(0, 2)", 2).due("alike(0, 3)", 3).due("alike(3, 0)", 3);
         // 2 and 3; 1 and 3; 0 and 1; 0 and 3; 1 and 2; all.
         new Run(check).parts("12....21", ".x8/.x8/.x8/.x8/.x8/.x8/.x8/12....21")
